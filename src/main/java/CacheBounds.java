@@ -460,7 +460,7 @@ public final class CacheBounds {
         private final int[] signs = new int[MOST_BYTES];
         private final int[] values = new int[MOST_BYTES];
         private final int[] mates = new int[MOST_BYTES];
-        private final int[] linesInLoops = new int[MOST_BYTES];
+        private final int[] linesWithin = new int[MOST_BYTES];
         private final int[] linesOfLooks = new int[MOST_LOOKS];
         private final int[] loopsAroundLooks = new int[MOST_LOOKS];
         int size = 0;
@@ -483,7 +483,7 @@ public final class CacheBounds {
             System.arraycopy(other.signs, 0, signs, 0, MOST_BYTES);
             System.arraycopy(other.values, 0, values, 0, MOST_BYTES);
             System.arraycopy(other.mates, 0, mates, 0, MOST_BYTES);
-            System.arraycopy(other.linesInLoops, 0, linesInLoops, 0, MOST_BYTES);
+            System.arraycopy(other.linesWithin, 0, linesWithin, 0, MOST_BYTES);
             System.arraycopy(other.linesOfLooks, 0, linesOfLooks, 0, MOST_LOOKS);
             System.arraycopy(other.loopsAroundLooks, 0, loopsAroundLooks, 0, MOST_LOOKS);
             size = other.size;
@@ -511,7 +511,7 @@ public final class CacheBounds {
             signs[size] = sign;
             values[size] = value;
             mates[size] = size;
-            linesInLoops[size] = 0;
+            linesWithin[size] = 0;
             size++;
             return true;
         }
@@ -533,9 +533,9 @@ public final class CacheBounds {
             }
         }
 
-        void addLineToLoop(int at, int line) {
+        void addLineWithin(int at, int line) {
             if (isSign(at)) {
-                linesInLoops[at] |= 1 << line;
+                linesWithin[at] |= 1 << line;
             }
         }
 
@@ -567,7 +567,7 @@ public final class CacheBounds {
 
         int howManyLinesAround(int k) {
             int at = isLook(k) ? loopsAroundLooks[k] : NONE;
-            return isSign(at) ? Integer.bitCount(linesInLoops[at]) : 0;
+            return isSign(at) ? Integer.bitCount(linesWithin[at]) : 0;
         }
 
         int waysThrough() {
@@ -666,7 +666,7 @@ public final class CacheBounds {
                 return false;
             }
             for (int i = 0; i < depth && i < DEEPEST; i++) {
-                draft.addLineToLoop(open[i], line);
+                draft.addLineWithin(open[i], line);
             }
             return true;
         }
