@@ -26,10 +26,23 @@ final class Due {
         return x.reads();
     }
 
+    /** A new object that has read the text. */
+    CacheBounds with(String text) {
+        CacheBounds x = new CacheBounds();
+        holds("'" + text + "' is read", read(x, text) >= 0);
+        return x;
+    }
+
+    static void looks(CacheBounds x, int... lines) {
+        for (int line : lines) {
+            x.look(line);
+        }
+    }
+
     /** The row as digits, front first, with a 9 ahead: 9 is empty, 912 holds 1, then 2. */
     static int row(CacheBounds x) {
         int digits = 9;
-        for (int k = 0; x.held(k) != CacheBounds.NONE; k++) {
+        for (int k = 0; k < 8 && x.held(k) != CacheBounds.NONE; k++) {
             digits = 10 * digits + x.held(k);
         }
         return digits;

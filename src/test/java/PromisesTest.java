@@ -35,18 +35,6 @@ public final class PromisesTest {
         due.end("PromisesTest");
     }
 
-    private static CacheBounds with(String text) {
-        CacheBounds x = new CacheBounds();
-        due.holds("'" + text + "' is read", Due.read(x, text) >= 0);
-        return x;
-    }
-
-    private static void looks(CacheBounds x, int... lines) {
-        for (int line : lines) {
-            x.look(line);
-        }
-    }
-
     private static void p1NewObject() {
         CacheBounds x = new CacheBounds();
         int[] counts = {0, 0, 0, 0, 2, 0, 10, 0, 0};
@@ -78,7 +66,7 @@ public final class PromisesTest {
     private static void p2Ways() {
         CacheBounds x = new CacheBounds();
         due.is("2: ways(3)", x.ways(3), 2);
-        looks(x, 0, 1, 2);
+        Due.looks(x, 0, 1, 2);
         due.is("2: three held", Due.row(x), 9210);
         due.is("2: ways(2)", x.ways(2), 3);
         due.is("2: the last went", Due.row(x), 921);
@@ -104,7 +92,7 @@ public final class PromisesTest {
             due.is("3: kind(" + k + ")", x.kind(k), -2);
         }
         due.is("3: KIND stays", x.count(5), 0);
-        looks(x, 0, 1);
+        Due.looks(x, 0, 1);
         x.kind(1);
         due.is("3: the row stays", Due.row(x), 910);
     }
@@ -125,7 +113,7 @@ public final class PromisesTest {
     private static void p5Empties() {
         CacheBounds x = new CacheBounds();
         due.is("5: empties() when empty", x.empties(), 0);
-        looks(x, 3, 4, 5);
+        Due.looks(x, 3, 4, 5);
         due.is("5: empties()", x.empties(), 2);
         due.is("5: nothing is held", Due.row(x), 9);
         due.is("5: all miss again", x.look(5), 10);
@@ -146,7 +134,7 @@ public final class PromisesTest {
             for (int place = 0; place < 3; place++) {
                 CacheBounds y = new CacheBounds();
                 y.ways(3);
-                looks(y, 0, 1, 2);
+                Due.looks(y, 0, 1, 2);
                 y.kind(kind);
                 due.is("6: a hit at " + place, y.look(2 - place), 1);
                 due.is("6: the row by kind " + kind + " at " + place, Due.row(y), full[kind][place]);
@@ -158,7 +146,7 @@ public final class PromisesTest {
         // A row of fewer than WAYS: by ONCE its last one comes to the front.
         CacheBounds y = new CacheBounds();
         y.ways(3);
-        looks(y, 0, 1);
+        Due.looks(y, 0, 1);
         y.kind(3);
         due.is("6: a hit at the last of two", y.look(0), 1);
         due.is("6: ONCE with a row that isn't full", Due.row(y), 901);
@@ -169,7 +157,7 @@ public final class PromisesTest {
             CacheBounds z = new CacheBounds();
             z.kind(kind);
             z.ways(1);
-            looks(z, 4, 4);
+            Due.looks(z, 4, 4);
             due.is("6: one way, a hit", Due.row(z), 94);
             z.look(3);
             due.is("6: one way, a miss", Due.row(z), 93);
@@ -178,7 +166,7 @@ public final class PromisesTest {
 
     private static void p7Held() {
         CacheBounds x = new CacheBounds();
-        looks(x, 5, 0);
+        Due.looks(x, 5, 0);
         due.is("7: held(0)", x.held(0), 0);
         due.is("7: held(1)", x.held(1), 5);
         for (int k : new int[] {2, 3, 4, 10, 11, 32, 1000, MOST}) {
@@ -211,7 +199,7 @@ public final class PromisesTest {
     }
 
     private static void p9Clear() {
-        CacheBounds x = with("ab");
+        CacheBounds x = due.with("ab");
         due.is("9: clear()", x.clear(), 2);
         due.is("9: clear() again", x.clear(), 0);
         due.is("9: no bytes", x.count(3), 0);
@@ -266,7 +254,7 @@ public final class PromisesTest {
     }
 
     private static void p11Told() {
-        CacheBounds x = with("a(b|2[c(.|)]3[])f4[5[6[f]]]");
+        CacheBounds x = due.with("a(b|2[c(.|)]3[])f4[5[6[f]]]");
         int[] want = {5, 2, 5, 3, 39};
         for (int what = 0; what < 5; what++) {
             due.is("11: told(" + what + ")", x.told(what), want[what]);
@@ -275,15 +263,15 @@ public final class PromisesTest {
             due.is("11: told(" + what + ")", x.told(what), -2);
         }
         due.is("11: BAD is counted", x.count(0), 4);
-        due.is("11: (|) is 1 deep", with("(|)").told(3), 1);
-        due.is("11: side by side is no deeper", with("1[](|)1[]").told(3), 1);
-        due.is("11: within is deeper", with("1[](|1[])").told(3), 2);
-        due.is("11: all lines", with("fedcba").told(4), 63);
-        due.is("11: work is no look", with("...").told(0), 0);
+        due.is("11: (|) is 1 deep", due.with("(|)").told(3), 1);
+        due.is("11: side by side is no deeper", due.with("1[](|)1[]").told(3), 1);
+        due.is("11: within is deeper", due.with("1[](|1[])").told(3), 2);
+        due.is("11: all lines", due.with("fedcba").told(4), 63);
+        due.is("11: work is no look", due.with("...").told(0), 0);
     }
 
     private static void of(String text, int k, int... want) {
-        CacheBounds x = with(text);
+        CacheBounds x = due.with(text);
         of(x, text, k, want);
     }
 
@@ -314,14 +302,14 @@ public final class PromisesTest {
         of("2[a3[b]c]", 2, 2, 0, 2, 1, 0, 2);
         of("2[(a|b)]c", 2, 2, 2, 2, 2, 0, 0);
         of("9[a]a", 1, 0, 0, 2, 0, 0, 0);
-        CacheBounds x = with("3[abc]");
+        CacheBounds x = due.with("3[abc]");
         of(x, "3[abc] by 2", 2, 2, 2, 2, 2, 0, 3);
         x.ways(3);
         of(x, "3[abc] by 3", 2, 2, 0, 3, 2, 1, 3);
         x.ways(1);
         of(x, "3[abc] by 1", 2, 2, 2, 1, 1, 0, 3);
         x.kind(2);
-        looks(x, 2);
+        Due.looks(x, 2);
         of(x, "3[abc] by 1, the cache counts not", 2, 2, 2, 1, 1, 0, 3);
         int[][] wrong = {{3, 0}, {-1, 0}, {0, 6}, {0, -1}, {LEAST, 0}, {MOST, 0}, {0, LEAST}, {0, MOST}, {24, 9}};
         for (int[] w : wrong) {
@@ -334,7 +322,7 @@ public final class PromisesTest {
 
     /** What was followed once must not be told of another program, or of other WAYS. */
     private static void followingKeepsUp() {
-        CacheBounds x = with("ab");
+        CacheBounds x = due.with("ab");
         due.is("12: a miss", x.of(1, 1), 2);
         Due.read(x, "aa");
         due.is("12: of the new program", x.of(1, 1), 1);
@@ -348,7 +336,7 @@ public final class PromisesTest {
     }
 
     private static void sure(String text, int ways, int open, int hits, int misses, int kept) {
-        CacheBounds x = with(text);
+        CacheBounds x = due.with(text);
         x.ways(ways);
         int[] want = {open, hits, misses, kept};
         for (int what = 0; what < 4; what++) {
@@ -372,7 +360,7 @@ public final class PromisesTest {
     }
 
     private static void p14Behind() {
-        CacheBounds x = with("ab(c|b)");
+        CacheBounds x = due.with("ab(c|b)");
         x.ways(3);
         int[] must = {2, 1, 3, 3, 3, 3};
         int[] may = {1, 0, 0, 3, 3, 3};
@@ -387,32 +375,32 @@ public final class PromisesTest {
             due.is("14: behind(" + w[0] + ", " + w[1] + ")", x.behind(w[0], w[1]), -2);
         }
         due.is("14: BAD is counted", x.count(0), wrong.length);
-        CacheBounds y = with("a1[bc]");
+        CacheBounds y = due.with("a1[bc]");
         due.is("14: MUST behind a loop", y.behind(0, 0), 2);
         due.is("14: MAY behind a loop", y.behind(1, 0), 0);
         due.is("14: MAY of c behind a loop", y.behind(1, 2), 0);
         due.is("14: MAY of b behind a loop", y.behind(1, 1), 1);
         // In MAY those of the same age grow older with a hit, and those of an older age don't.
-        CacheBounds z = with("(a|b)a");
+        CacheBounds z = due.with("(a|b)a");
         due.is("14: MAY of b behind (a|b)a", z.behind(1, 1), 1);
-        CacheBounds w = with("(a|b)(a|b)b");
+        CacheBounds w = due.with("(a|b)(a|b)b");
         due.is("14: MUST of a", w.behind(0, 0), 2);
         due.is("14: MAY of a", w.behind(1, 0), 1);
     }
 
     private static void p15Upper() {
-        due.is("15: looks", with("abab").upper(), 22);
-        due.is("15: work and blanks", with(". . .").upper(), 3);
-        due.is("15: the dearer of both", with("(..|...)").upper(), 3);
-        due.is("15: the dearer of both, turned", with("(...|..)").upper(), 3);
-        due.is("15: loops as often as may be", with("3[.2[.]]").upper(), 9);
-        due.is("15: an open look is a miss", with("(a|)a").upper(), 20);
-        due.is("15: a kept look is a miss each time", with("9[a]").upper(), 90);
-        due.is("15: sure hits in a loop", with("a9[a]").upper(), 19);
-        CacheBounds x = with("9[9[9[abcdefabcdefabcdefabcdef]]]");
+        due.is("15: looks", due.with("abab").upper(), 22);
+        due.is("15: work and blanks", due.with(". . .").upper(), 3);
+        due.is("15: the dearer of both", due.with("(..|...)").upper(), 3);
+        due.is("15: the dearer of both, turned", due.with("(...|..)").upper(), 3);
+        due.is("15: loops as often as may be", due.with("3[.2[.]]").upper(), 9);
+        due.is("15: an open look is a miss", due.with("(a|)a").upper(), 20);
+        due.is("15: a kept look is a miss each time", due.with("9[a]").upper(), 90);
+        due.is("15: sure hits in a loop", due.with("a9[a]").upper(), 19);
+        CacheBounds x = due.with("9[9[9[abcdefabcdefabcdefabcdef]]]");
         x.price(99);
         due.is("15: the most there is", x.upper(), 729 * 24 * 99);
-        looks(x, 0, 1);
+        Due.looks(x, 0, 1);
         x.kind(1);
         due.is("15: THE CACHE and its KIND count not", x.upper(), 729 * 24 * 99);
         x.ways(3);
@@ -420,20 +408,20 @@ public final class PromisesTest {
     }
 
     private static void p16Lower() {
-        due.is("16: looks", with("abab").lower(), 22);
-        due.is("16: the cheaper of both", with("(..|...)").lower(), 2);
-        due.is("16: the cheaper of both, turned", with("(...|..)").lower(), 2);
-        due.is("16: loops not at all", with(".3[...]").lower(), 1);
-        due.is("16: an open look is a hit", with("(a|)a").lower(), 1);
-        due.is("16: a sure miss", with("(a|b)c").lower(), 20);
-        CacheBounds x = with("ab");
-        looks(x, 0, 1);
+        due.is("16: looks", due.with("abab").lower(), 22);
+        due.is("16: the cheaper of both", due.with("(..|...)").lower(), 2);
+        due.is("16: the cheaper of both, turned", due.with("(...|..)").lower(), 2);
+        due.is("16: loops not at all", due.with(".3[...]").lower(), 1);
+        due.is("16: an open look is a hit", due.with("(a|)a").lower(), 1);
+        due.is("16: a sure miss", due.with("(a|b)c").lower(), 20);
+        CacheBounds x = due.with("ab");
+        Due.looks(x, 0, 1);
         x.price(50);
         due.is("16: THE CACHE counts not", x.lower(), 100);
     }
 
     private static void p17Worst() {
-        CacheBounds x = with("(a|b)(a|b)");
+        CacheBounds x = due.with("(a|b)(a|b)");
         due.is("17: two misses", x.worst(), 20);
         x.look(0);
         due.is("17: from THE CACHE as it is", x.worst(), 11);
@@ -443,11 +431,11 @@ public final class PromisesTest {
         due.is("17: one way", x.worst(), 20);
         x.price(3);
         due.is("17: another price", x.worst(), 6);
-        due.is("17: work", with("..(.|..)").worst(), 4);
-        CacheBounds y = with("ab2[cab]");
+        due.is("17: work", due.with("..(.|..)").worst(), 4);
+        CacheBounds y = due.with("ab2[cab]");
         due.is("17: LRU", y.worst(), 80);
         // a b | a stays last by FIFO: c puts it out, ..
-        CacheBounds z = with("abaca");
+        CacheBounds z = due.with("abaca");
         due.is("17: abaca by LRU", z.worst(), 32);
         z.kind(1);
         due.is("17: abaca by FIFO", z.worst(), 41);
@@ -455,7 +443,7 @@ public final class PromisesTest {
         due.is("17: abaca by HALF", z.worst(), 32);
         z.kind(3);
         due.is("17: abaca by ONCE", z.worst(), 41);
-        CacheBounds big = with("9[9[9[a]9[b]9[c]9[d]9[e]9[f]9[a]9[b]9[c]9[d]9[e]9[f]9[a]9[b]9[c]9[d]9[e]9[f]]]");
+        CacheBounds big = due.with("9[9[9[a]9[b]9[c]9[d]9[e]9[f]9[a]9[b]9[c]9[d]9[e]9[f]9[a]9[b]9[c]9[d]9[e]9[f]]]");
         big.ways(3);
         due.is("17: looks alone in loops", big.worst(), 81 * 18 * (10 + 8));
         due.is("17: nothing changed", Due.row(big), 9);
@@ -464,7 +452,7 @@ public final class PromisesTest {
 
     /** What was found once must not be told of another program or cache. */
     private static void exploringKeepsUp() {
-        CacheBounds x = with("a");
+        CacheBounds x = due.with("a");
         due.is("17: a", x.worst(), 10);
         Due.read(x, "ab");
         due.is("17: ab", x.worst(), 20);
@@ -483,29 +471,29 @@ public final class PromisesTest {
     }
 
     private static void p18Best() {
-        due.is("18: the first", with("(.|..)").best(), 1);
-        due.is("18: a loop not at all", with("9[.]").best(), 0);
-        due.is("18: a look that can hit", with("(a|b)a").best(), 11);
-        CacheBounds x = with("(a|..)");
+        due.is("18: the first", due.with("(.|..)").best(), 1);
+        due.is("18: a loop not at all", due.with("9[.]").best(), 0);
+        due.is("18: a look that can hit", due.with("(a|b)a").best(), 11);
+        CacheBounds x = due.with("(a|..)");
         due.is("18: work is less than a miss", x.best(), 2);
         x.look(0);
         due.is("18: a hit is less than work", x.best(), 1);
         // Doing a loop can be cheaper than leaving it out: never of itself, but for what comes behind.
-        CacheBounds y = with("(b|ab)bb");
+        CacheBounds y = due.with("(b|ab)bb");
         due.is("18: the least of all ways", y.best(), 12);
         due.is("18: nothing changed", Due.row(y), 9);
     }
 
     private static void p19Ends() {
-        due.is("19: none", with("").ends(), 1);
-        due.is("19: one", with("ab").ends(), 1);
-        due.is("19: two", with("(a|b)").ends(), 2);
-        due.is("19: the same row by two ways", with("(a|.a)").ends(), 1);
-        due.is("19: the order counts", with("(ab|ba)").ends(), 2);
-        due.is("19: a loop", with("9[a]").ends(), 2);
-        due.is("19: a loop's figure counts", with("1[(a|b)]").ends(), 3);
-        due.is("19: a loop's figure counts too", with("2[(a|b)]").ends(), 5);
-        CacheBounds y = with("3[((a|b)|(c|d))]3[(e|f)]3[((a|b)|(c|d))]3[(e|f)]3[((a|b)|(c|d))]");
+        due.is("19: none", due.with("").ends(), 1);
+        due.is("19: one", due.with("ab").ends(), 1);
+        due.is("19: two", due.with("(a|b)").ends(), 2);
+        due.is("19: the same row by two ways", due.with("(a|.a)").ends(), 1);
+        due.is("19: the order counts", due.with("(ab|ba)").ends(), 2);
+        due.is("19: a loop", due.with("9[a]").ends(), 2);
+        due.is("19: a loop's figure counts", due.with("1[(a|b)]").ends(), 3);
+        due.is("19: a loop's figure counts too", due.with("2[(a|b)]").ends(), 5);
+        CacheBounds y = due.with("3[((a|b)|(c|d))]3[(e|f)]3[((a|b)|(c|d))]3[(e|f)]3[((a|b)|(c|d))]");
         y.ways(3);
         due.is("19: all rows there are", y.ends(), 1 + 6 + 30 + 120);
         y.ways(2);
@@ -515,33 +503,33 @@ public final class PromisesTest {
     }
 
     private static void p20Many() {
-        due.is("20: one", with("abc.").many(), 1);
-        due.is("20: choices", with("(a|b)(|)").many(), 4);
-        due.is("20: a choice in a choice", with("((|)|)").many(), 3);
-        due.is("20: a loop", with("9[.]").many(), 10);
-        due.is("20: a loop of an empty row", with("9[]").many(), 10);
-        due.is("20: a choice in a loop", with("3[(|)]").many(), 15);
-        due.is("20: a loop in a loop", with("2[3[]]").many(), 21);
+        due.is("20: one", due.with("abc.").many(), 1);
+        due.is("20: choices", due.with("(a|b)(|)").many(), 4);
+        due.is("20: a choice in a choice", due.with("((|)|)").many(), 3);
+        due.is("20: a loop", due.with("9[.]").many(), 10);
+        due.is("20: a loop of an empty row", due.with("9[]").many(), 10);
+        due.is("20: a choice in a loop", due.with("3[(|)]").many(), 15);
+        due.is("20: a loop in a loop", due.with("2[3[]]").many(), 21);
         StringBuilder choices = new StringBuilder();
         for (int i = 0; i < 26; i++) {
             choices.append("(|)");
         }
-        due.is("20: 26 choices", with(choices.toString()).many(), 1 << 26);
-        due.is("20: nine loops", with("9[]9[]9[]9[]9[]9[]9[]9[]9[]").many(), 1000000000);
-        due.is("20: nine loops less one way", with("9[]9[]9[]9[]9[]9[]9[]9[]8[]").many(), 900000000);
-        due.is("20: beyond", with("9[]9[]9[]9[]9[]9[]9[]9[](9[]|)").many(), 1000000000);
-        due.is("20: far beyond", with("9[9[9[]9[]9[]9[]9[]9[]]]").many(), 1000000000);
-        due.is("20: the figures in a product", with("9[9[9[]]]9[9[9[]]]9[9[9[]]]").many(), 1000000000);
+        due.is("20: 26 choices", due.with(choices.toString()).many(), 1 << 26);
+        due.is("20: nine loops", due.with("9[]9[]9[]9[]9[]9[]9[]9[]9[]").many(), 1000000000);
+        due.is("20: nine loops less one way", due.with("9[]9[]9[]9[]9[]9[]9[]9[]8[]").many(), 900000000);
+        due.is("20: beyond", due.with("9[]9[]9[]9[]9[]9[]9[]9[](9[]|)").many(), 1000000000);
+        due.is("20: far beyond", due.with("9[9[9[]9[]9[]9[]9[]9[]]]").many(), 1000000000);
+        due.is("20: the figures in a product", due.with("9[9[9[]]]9[9[9[]]]9[9[9[]]]").many(), 1000000000);
     }
 
     private static void p21WorstBy() {
-        CacheBounds x = with("2[abc]");
+        CacheBounds x = due.with("2[abc]");
         int[] want = {60, 60, 33};
         for (int n = 1; n <= 3; n++) {
             due.is("21: worstBy(0, " + n + ")", x.worstBy(0, n), want[n - 1]);
         }
         due.is("21: worstBy(1, 0)", x.worstBy(1, 0), 3);
-        looks(x, 0, 1);
+        Due.looks(x, 0, 1);
         due.is("21: THE CACHE is empty at the beginning", x.worstBy(0, 3), 33);
         due.is("21: THE CACHE stays", Due.row(x), 910);
         due.is("21: WAYS stay", x.count(4), 2);
@@ -578,7 +566,7 @@ public final class PromisesTest {
     }
 
     private static void p22Runs() {
-        CacheBounds x = with("(a|b)3[c].");
+        CacheBounds x = due.with("(a|b)3[c].");
         due.is("22: runs(0)", x.runs(0), 11);
         due.is("22: the first was chosen", Due.row(x), 90);
         due.is("22: runs(1)", x.runs(1), 11);
@@ -592,22 +580,22 @@ public final class PromisesTest {
         }
         due.is("22: THE CACHE stays", Due.row(x), 921);
         due.is("22: BAD is counted", x.count(0), 4);
-        CacheBounds y = with("9[9[.]]9[.]");
+        CacheBounds y = due.with("9[9[.]]9[.]");
         due.is("22: beyond 20 bits all is 0", y.runs(1048575), 18);
-        CacheBounds z = with("2[(.|..)]");
+        CacheBounds z = due.with("2[(.|..)]");
         due.is("22: in order as asked", z.runs(0b0111), 3);
         due.is("22: in order as asked, turned", z.runs(0b1101), 3);
-        due.is("22: no bit when it was done as often as may be", with("1[.](|..)").runs(0b11), 3);
+        due.is("22: no bit when it was done as often as may be", due.with("1[.](|..)").runs(0b11), 3);
     }
 
     private static void p23Ran() {
-        CacheBounds x = with("ab3[a(b|c)].");
+        CacheBounds x = due.with("ab3[a(b|c)].");
         x.runs(7);
         due.is("23: HITS", x.ran(0), 2);
         due.is("23: MISSES", x.ran(1), 4);
         due.is("23: bits", x.ran(2), 5);
         x.draws(1, 20);
-        looks(x, 1, 2, 3);
+        Due.looks(x, 1, 2, 3);
         x.runs(-1);
         x.undo();
         due.is("23: HITS of the last run still", x.ran(0), 2);
@@ -625,13 +613,13 @@ public final class PromisesTest {
     }
 
     private static void p24Undo() {
-        CacheBounds x = with("ab");
+        CacheBounds x = due.with("ab");
         due.is("24: undo() of nothing", x.undo(), -3);
         due.is("24: NO is counted", x.count(1), 1);
         x.ways(3);
         x.kind(2);
         x.price(7);
-        looks(x, 3, 4);
+        Due.looks(x, 3, 4);
         x.runs(0);
         x.ways(1);
         x.empties();
@@ -678,7 +666,7 @@ public final class PromisesTest {
     }
 
     private static void p25Draws() {
-        CacheBounds x = with("9[(.|..)]");
+        CacheBounds x = due.with("9[(.|..)]");
         due.is("25: none", x.draws(5, 0), 0);
         int[] seeds = {0, 1, 77, 123456, 999999};
         for (int seed : seeds) {
@@ -686,14 +674,14 @@ public final class PromisesTest {
             int most = 0;
             for (int n = 1; n <= 20; n++) {
                 state = (state * 1103515245L + 12345L) & 0x7fffffffL;
-                most = Math.max(most, with("9[(.|..)]").runs((int) (state >> 10 & 0xfffff)));
+                most = Math.max(most, due.with("9[(.|..)]").runs((int) (state >> 10 & 0xfffff)));
                 due.is("25: draws(" + seed + ", " + n + ")", x.draws(seed, n), most);
             }
         }
-        CacheBounds y = with("ab");
+        CacheBounds y = due.with("ab");
         due.is("25: from THE CACHE as it is each time", y.draws(3, 4), 20);
         due.is("25: it stays", Due.row(y), 9);
-        looks(y, 0, 1);
+        Due.looks(y, 0, 1);
         due.is("25: all held", y.draws(3, 4), 2);
         due.is("25: it can't be undone", y.count(8), 2);
         int[][] wrong = {{-1, 0}, {1000000, 0}, {0, -1}, {0, 21}, {LEAST, 0}, {MOST, 0}, {0, LEAST}, {0, MOST}};
@@ -708,7 +696,7 @@ public final class PromisesTest {
         x.ways(3);
         x.kind(1);
         x.price(42);
-        looks(x, 0, 1);
+        Due.looks(x, 0, 1);
         for (int i = 0; i < 83; i++) {
             x.type('.');
         }
