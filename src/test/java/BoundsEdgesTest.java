@@ -11,6 +11,7 @@ public final class BoundsEdgesTest {
         upperOfTheDearest();
         lowerBySureMissesAlone();
         lowerLoopsNotAtAll();
+        boundsThreeDeep();
         trulyFromTheCacheAsItIs();
         trulyByItsKind();
         trulyOverAllTimesOfALoop();
@@ -105,6 +106,31 @@ public final class BoundsEdgesTest {
         due.is("16, 80 of work", due.with(".".repeat(80)).lower(), 80);
     }
 
+    // "3 ( and [ within one another": the innermost ROW counts too
+    private static void boundsThreeDeep() {
+        CacheBounds x = due.with("(((...|.)|....)|.....)");
+        due.is("15, three ( deep", x.upper(), 5);
+        due.is("16, three ( deep", x.lower(), 1);
+        due.is("17, three ( deep", x.worst(), 5);
+        due.is("18, three ( deep", x.best(), 1);
+        due.is("20, three ( deep", x.many(), 4);
+        CacheBounds first = due.with("(((.....|..)|...)|....)");
+        due.is("15, the innermost is the most", first.upper(), 5);
+        due.is("16, the innermost is the least", first.lower(), 2);
+        CacheBounds second = due.with("(...|(..|(..|....)))");
+        due.is("15, the innermost second is the most", second.upper(), 4);
+        due.is("16, a second is the least", second.lower(), 2);
+        due.is("16, the innermost second is the least", due.with("(...|(..|(..|.)))").lower(), 1);
+        due.is("20, three deep in the second", second.many(), 4);
+        due.is("20, three deep with LOOPS", due.with("(|(|9[]))((9[]|)|)").many(), 144);
+        CacheBounds y = due.with("2[3[4[.]]]");
+        due.is("15, three LOOPS deep", y.upper(), 24);
+        due.is("16, three LOOPS deep", y.lower(), 0);
+        due.is("17, three LOOPS deep", y.worst(), 24);
+        due.is("18, three LOOPS deep", y.best(), 0);
+        due.is("20, three LOOPS deep", y.many(), 1 + 156 + 156 * 156);
+    }
+
     // TRULY: "from THE CACHE as it is"
     private static void trulyFromTheCacheAsItIs() {
         CacheBounds x = with(3, 0, "abc");
@@ -176,6 +202,10 @@ public final class BoundsEdgesTest {
         due.is("17, the first", due.with("(.|)").worst(), 1);
         due.is("18, the first", due.with("(|.)").best(), 0);
         due.is("18, the second", due.with("(.|)").best(), 0);
+        due.is("17, with work around", due.with("..(.|..).").worst(), 5);
+        due.is("18, with work around", due.with("..(.|..).").best(), 4);
+        due.is("17, 80 of work", due.with(".".repeat(80)).worst(), 80);
+        due.is("18, 80 of work", due.with(".".repeat(80)).best(), 80);
         due.is("17, of 20 choices", due.with("(|.)".repeat(20)).worst(), 20);
         due.is("18, of 20 choices", due.with("(.|)".repeat(20)).best(), 0);
     }
@@ -231,6 +261,12 @@ public final class BoundsEdgesTest {
             due.is("20, a LOOP of " + figure, due.with(figure + "[]").many(), figure + 1);
         }
         due.is("20, a LOOP of a choice", due.with("2[(|)]").many(), 1 + 2 + 4);
+        due.is("20, a choice in the first", due.with("((|)|)").many(), 3);
+        due.is("20, a choice in the second", due.with("(|(|))").many(), 3);
+        due.is("20, a LOOP in the first", due.with("(9[]|)").many(), 11);
+        due.is("20, a LOOP in the second", due.with("(|9[])").many(), 11);
+        due.is("20, a LOOP in a LOOP", due.with("2[2[]]").many(), 1 + 3 + 9);
+        due.is("20, behind one another", due.with("(|)2[](|)").many(), 12);
     }
 
     // Promise 20: "(1000000000 at most)"
@@ -286,6 +322,7 @@ public final class BoundsEdgesTest {
     private static void worstByTheLeastWays() {
         due.is("21, all the same", due.with("abcdef").worstBy(1, 0), 1);
         due.is("21, nothing", due.with("").worstBy(1, 0), 1);
+        due.is("21, one LINE", due.with("aa").worstBy(1, 0), 1);
         due.is("21, 2 and 3 the same", due.with("aba").worstBy(1, 0), 2);
         due.is("21, 1 and 2 the same", due.with("abca").worstBy(1, 0), 3);
         due.is("21, each less", due.with("abacba").worstBy(1, 0), 3);

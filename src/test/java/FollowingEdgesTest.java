@@ -19,6 +19,8 @@ public final class FollowingEdgesTest {
         mayUntilThatChangesNothing();
         behindItIsWhatGoesIntoIt();
         loopsWithinLoops();
+        choicesThreeDeep();
+        ofTheProgramThatWasReadLast();
         sureHitBelowWays();
         sureMissAtWays();
         inALoopAtLast();
@@ -208,6 +210,43 @@ public final class FollowingEdgesTest {
         at(1, "a1[1[a]]b", 1, 1, 0, 0);
     }
 
+    private static void choicesThreeDeep() {
+        behind(2, "((( a|b)|)|)", "222222", "002222");
+        behind(2, "(|(|(|ab)))", "222222", "102222");
+        behind(2, "a(((b|c)|)|)", "122222", "000222");
+        behind(2, "1[1[(a|b)]]", "222222", "002222");
+        at(2, "a(((ab|c)|)|)a", 4, 1, 1, 0);
+        at(1, "a(((b|a)|)|)a", 3, 0, 1, 0);
+    }
+
+    private static void ofTheProgramThatWasReadLast() {
+        CacheBounds x = due.with("aa");
+        due.is("12, a SURE HIT", x.of(1, 1), 1);
+        due.is("14, MUST of b", x.behind(0, 1), 2);
+        due.is("13, SURE HITS", x.sure(1), 1);
+        Due.read(x, "bc");
+        due.is("12, a SURE MISS", x.of(1, 1), 2);
+        due.is("14, MUST of b now", x.behind(0, 1), 1);
+        due.is("13, no SURE HITS now", x.sure(1), 0);
+        Due.read(x, "bb(");
+        due.is("12, the same by a FAULT", x.of(1, 1), 2);
+        x.ways(1);
+        due.is("14, MUST of c by 1", x.behind(0, 2), 0);
+        due.is("14, MUST of b by 1", x.behind(0, 1), 1);
+        x.ways(3);
+        due.is("14, MUST of a by 3", x.behind(0, 0), 3);
+        x.undo();
+        due.is("14, MUST of a by 1 again", x.behind(0, 0), 1);
+        CacheBounds y = due.with("2[abc]");
+        due.is("13, none is KEPT", y.sure(3), 0);
+        Due.read(y, "2[d]");
+        due.is("12, one is KEPT: the LINES of another program count not", y.of(0, 4), 1);
+        Due.read(y, "2[abc)");
+        due.is("12, nor those of a FAULT", y.of(0, 4), 1);
+        Due.read(y, "2[e]");
+        due.is("12, nor behind a FAULT", y.of(0, 4), 1);
+    }
+
     // "a SURE HIT, if MUST of its LINE is below WAYS where it is come to"
     private static void sureHitBelowWays() {
         at(1, "aa", 1, 1, 0, 0);
@@ -276,6 +315,7 @@ public final class FollowingEdgesTest {
         kept(2, "ab", "00");
         kept(2, "(a|b)a", "000");
         kept(2, "c9[a]b", "010");
+        kept(1, "c9[a]b", "010");
         kept(2, "a9[a]", "00");
         kept(2, "b9[a]", "01");
         kept(2, "a1[]b", "00");

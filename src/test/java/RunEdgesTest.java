@@ -12,6 +12,7 @@ public final class RunEdgesTest {
         beyondTheBitsAllIs0();
         askedInOrderAsTheyCome();
         noBitWhereALoopIsDone();
+        runsThreeDeep();
         theCacheIsAsBehindIt();
         ranIs0AtFirst();
         ranWhat0To2();
@@ -120,6 +121,19 @@ public final class RunEdgesTest {
         due.is("23, eight of nine: 9 bits", z.ran(2), 9);
         z.runs(0b001111111);
         due.is("23, seven of nine: 8 bits", z.ran(2), 8);
+    }
+
+    // "3 ( and [ within one another": the innermost ROW is run too
+    private static void runsThreeDeep() {
+        CacheBounds x = due.with("1[1[1[a.]]]");
+        due.is("22, three LOOPS deep", x.runs(0b111), 11);
+        due.is("22, two LOOPS deep", x.runs(0b011), 0);
+        due.is("23, three bits", x.ran(2), 3);
+        CacheBounds y = due.with("(((.|..)|...)|....)");
+        due.is("22, the first of the first", y.runs(0b000), 1);
+        due.is("22, the innermost second", y.runs(0b100), 2);
+        due.is("22, the middle second", y.runs(0b010), 3);
+        due.is("22, the outermost second", y.runs(0b001), 4);
     }
 
     // Promise 22: "THE CACHE is as behind it"

@@ -25,6 +25,7 @@ public final class TextEdgesTest {
         readsAgainAndAgain();
         toldWhat0To4();
         toldAtItsLeastAndMost();
+        toldOfTheLastReadAlone();
         ofEachLook();
         ofWhat0To5();
         figureAroundOrNone();
@@ -402,6 +403,19 @@ public final class TextEdgesTest {
         due.is("11, no LINES", due.with(".(.|.)").told(4), 0);
         due.is("11, all LINES", due.with("f1[e](d|c)ba").told(4), 63);
         due.is("11, the lowest and the highest LINE", due.with("fafa").told(4), 33);
+    }
+
+    private static void toldOfTheLastReadAlone() {
+        CacheBounds x = due.with("abcdef(1[(|)]|)1[]");
+        String[] texts = {"f", "(|)", "1[(|b)]", "", "(((|)|)|)", "(a|", "a"};
+        int[][] told = {{1, 0, 0, 0, 32}, {0, 1, 0, 1, 0}, {1, 1, 1, 2, 2}, {0, 0, 0, 0, 0}, {0, 3, 0, 3, 0},
+            {0, 3, 0, 3, 0}, {1, 0, 0, 0, 1}};
+        for (int i = 0; i < texts.length; i++) {
+            Due.read(x, texts[i]);
+            for (int what = 0; what <= 4; what++) {
+                due.is("11, behind '" + texts[i] + "' told(" + what + ")", x.told(what), told[i][what]);
+            }
+        }
     }
 
     // Promise 12: "Of LOOK k .. BAD."
