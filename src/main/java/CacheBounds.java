@@ -330,6 +330,8 @@ public final class CacheBounds {
     private static final class Rows {
         static final int EMPTY = 0;
         static final int NUMBERS = 512;
+        // The rows that can be: 1 of no line, 6 of one, 6 * 5 of two, 6 * 5 * 4 of three.
+        static final int MOST = 157;
         private static final int BITS = 3;
         private static final int PLACE_MASK = 7;
 
@@ -791,13 +793,15 @@ public final class CacheBounds {
         private final int[] must = new int[MOST_LOOKS];
         private final int[] may = new int[MOST_LOOKS];
         private final Ages[] now = new Ages[DEEPEST + 1];
-        private final Ages[] ahead = new Ages[DEEPEST + 1];
+        private final Ages[] ahead = new Ages[DEEPEST];
         private int ways = 0;
         private boolean known = false;
 
         Following() {
             for (int i = 0; i <= DEEPEST; i++) {
                 now[i] = new Ages();
+            }
+            for (int i = 0; i < DEEPEST; i++) {
                 ahead[i] = new Ages();
             }
         }
@@ -951,7 +955,7 @@ public final class CacheBounds {
 
     /** The rows the cache can have at one place of a program, each with the most and the least it took. */
     private static final class Front {
-        private final int[] rows = new int[Rows.NUMBERS];
+        private final int[] rows = new int[Rows.MOST];
         private final int[] most = new int[Rows.NUMBERS];
         private final int[] least = new int[Rows.NUMBERS];
         int size = 0;
@@ -961,7 +965,7 @@ public final class CacheBounds {
         }
 
         void wipe() {
-            for (int i = 0; i < size && i < Rows.NUMBERS; i++) {
+            for (int i = 0; i < size && i < Rows.MOST; i++) {
                 most[rowAt(i)] = NONE;
             }
             size = 0;
@@ -974,7 +978,7 @@ public final class CacheBounds {
             if (most[row] != NONE) {
                 most[row] = Math.max(most[row], mostTaken);
                 least[row] = Math.min(least[row], leastTaken);
-            } else if (size >= 0 && size < Rows.NUMBERS) {
+            } else if (size >= 0 && size < Rows.MOST) {
                 rows[size] = row;
                 size++;
                 most[row] = mostTaken;
@@ -1035,7 +1039,7 @@ public final class CacheBounds {
 
         /** Always an index of the rows' arrays. */
         private int rowAt(int i) {
-            return i >= 0 && i < Rows.NUMBERS ? rows[i] & (Rows.NUMBERS - 1) : 0;
+            return i >= 0 && i < Rows.MOST ? rows[i] & (Rows.NUMBERS - 1) : 0;
         }
     }
 
@@ -1045,7 +1049,7 @@ public final class CacheBounds {
      */
     private static final class Explorer {
         private final Front[] now = new Front[DEEPEST + 1];
-        private final Front[] ahead = new Front[DEEPEST + 1];
+        private final Front[] ahead = new Front[DEEPEST];
         private Front unused = new Front();
         private final Cache start = new Cache();
         private boolean known = false;
@@ -1053,6 +1057,8 @@ public final class CacheBounds {
         Explorer() {
             for (int i = 0; i <= DEEPEST; i++) {
                 now[i] = new Front();
+            }
+            for (int i = 0; i < DEEPEST; i++) {
                 ahead[i] = new Front();
             }
         }
